@@ -122,6 +122,15 @@ public final class PromiseTest {
         text("farmer 1 1;000", -21, 1);
         text("farmers 1 1;", -10, 2);
         text("sun 1 1;", -10, 2);
+        for (String name : "garmer coatman niller feeler tover adds gloor tky zzz farme skyy".split(" ")) {
+            text(name + " 1 1;", -10, 2);
+        }
+        for (String name : "fun trey met crost su greyy".split(" ")) {
+            text("sky " + name + ";", -14, 2);
+        }
+        for (String other : "` { / : A Z ~ \n \0".split(" ")) {
+            text("floor" + other + "1;", -15, 1);
+        }
         text("1;", -10, 2);
         text(";", -10, 2);
         text("farmer ;", -17, 2);
@@ -190,6 +199,16 @@ public final class PromiseTest {
         due("images are gone", x.back(0), STATE);
         due("nothing is seen", x.count(0), 0);
         due("sheets stay", x.count(3), 3);
+        x.insure(0, 1, 2, 3, 4);
+        x.week(0);
+        x.keep(1);
+        x.see(0, 1, 9);
+        due("a text without lines", x.text(), 0);
+        due("tells that nobody is there", x.rule(0), 0);
+        due("no covers", x.rule(1), 0);
+        due("week", x.rule(3), 0);
+        due("no image", x.back(1), STATE);
+        due("nothing seen", x.count(0), 0);
         promise = "5 fault";
         due("none", new RainCover().fault(), 0);
         due("behind a good text", x.fault(), 0);
@@ -244,6 +263,7 @@ public final class PromiseTest {
         }
         due("no such COVER", x.cover(3, 0), BAD);
         due("-1", x.cover(-1, 0), BAD);
+        due("what -1", x.cover(0, -1), BAD);
         due("what 5", x.cover(0, 5), BAD);
 
         begin("10 odds", "odds 1 2 3 4;");
@@ -279,7 +299,9 @@ public final class PromiseTest {
         due("kind", x.alter(0, 0, 3), 0);
         due("kind again", x.alter(0, 0, 0), 3);
         due("kind 4", x.alter(0, 0, 4), BAD);
-        due("field", x.alter(0, 1, 5), 3);
+        due("kind -1", x.alter(0, 0, -1), BAD);
+        due("field 1", x.alter(0, 1, 1), 3);
+        due("field", x.alter(0, 1, 5), 1);
         due("field 0", x.alter(0, 1, 0), BAD);
         due("field 6", x.alter(0, 1, 6), BAD);
         due("purse", x.alter(0, 2, 999), 10);
@@ -295,6 +317,8 @@ public final class PromiseTest {
         due("weather 4", x.sign(1, 2, 4), BAD);
         due("pays", x.sign(1, 3, 20), 9);
         due("pays 21", x.sign(1, 3, 21), BAD);
+        due("pays -1", x.sign(1, 3, -1), BAD);
+        due("weather -1", x.sign(1, 2, -1), BAD);
         due("premium", x.sign(1, 4, 9), 2);
         due("premium 10", x.sign(1, 4, 10), BAD);
         due("premium -1", x.sign(1, 4, -1), BAD);
@@ -323,7 +347,9 @@ public final class PromiseTest {
         due("-1", x.drop(-1), BAD);
         due("0", x.drop(0), 2);
         due("the first then", x.cover(0, 3), 9);
-        due("the second then", x.cover(1, 1), 3);
+        for (int what = 0; what < 5; what++) {
+            due("the second then, " + what, x.cover(1, what), new int[] {2, 3, 3, 5, 0}[what]);
+        }
         due("1", x.drop(1), 1);
         due("the last", x.drop(0), 0);
         due("none", x.drop(0), BAD);
@@ -396,6 +422,9 @@ public final class PromiseTest {
             due("no plan, " + i, x.runs(i), still[i]);
         }
         due("something was owed", owed > 0 ? 1 : 0, 1);
+        x = Check.told("farmer 1 9;miller 1 5;cover 1 0 wet 3 0;sky sun wet wet wet;");
+        due("fails once in a week, the first", x.runs(2), 2);
+        due("fails", x.runs(0), 2);
 
         begin("23 ahead", VALLEY);
         int[] ahead = {3, 7, 0, 2, BAD};
@@ -462,6 +491,12 @@ public final class PromiseTest {
         due("5 weeks", x.least(0, 5, 0), BAD);
         due("-1 weeks", x.least(0, -1, 0), BAD);
         due("what 3", x.least(0, 0, 3), BAD);
+        due("what -1", x.least(0, 0, -1), BAD);
+        x.alter(0, 0, 2);
+        due("two are as low: the first", x.least(0, 1, 1), 0);
+        x.alter(0, 0, 3);
+        due("the last", x.least(0, 1, 1), 3);
+        x.alter(0, 0, 0);
         purses(9);
 
         begin("25 safe", "farmer 1 9;miller 1 20;");
@@ -476,6 +511,8 @@ public final class PromiseTest {
         due("below it", x.safe(1), 2);
         x.floor(10);
         due("now", x.safe(0), 2);
+        x = Check.told("farmer 1 0;farmer 1 30;boatman 1 0;eeler 1 30;");
+        due("some", x.safe(4), 10);
 
         begin("26 fair", "farmer 1 9;miller 1 20;cover 0 1 sun 7 0;cover 0 1 wet 10 0;cover 0 1 frost 9 0;cover 1 0 frost 0 0;");
         int[] fair = {3, 3, 1, 0, BAD};
@@ -498,6 +535,9 @@ public final class PromiseTest {
         x.sign(0, 3, 9);
         due("of several the first", x.dear(0), 0);
         due("how much", x.dear(1), 12);
+        x.insure(3, 2, 1, 20, 0);
+        due("grey", x.dear(0), 1);
+        due("how much", x.dear(1), 23);
     }
 
     private void theCoverMore() {
@@ -511,6 +551,7 @@ public final class PromiseTest {
         due("of 0", x.help(0, 0), BAD);
         due("of 21", x.help(21, 0), BAD);
         due("what 2", x.help(3, 2), BAD);
+        due("what -1", x.help(3, -1), BAD);
         due("no cover came", x.rule(1), 0);
         x.insure(1, 0, 3, 3, 0);
         due("all are safe", x.help(3, 0), NONE);
@@ -527,6 +568,7 @@ public final class PromiseTest {
         due("which", x.spare(0), 1);
         due("how many", x.spare(1), 2);
         due("2", x.spare(2), BAD);
+        due("-1", x.spare(-1), BAD);
         due("covers", x.rule(1), 2);
         x.drop(1);
         due("none", x.spare(0), NONE);
@@ -551,6 +593,7 @@ public final class PromiseTest {
         due("5 weeks", x.mean(0, 5, 0), BAD);
         due("-1 weeks", x.mean(0, -1, 0), BAD);
         due("what 2", x.mean(0, 0, 2), BAD);
+        due("what -1", x.mean(0, 0, -1), BAD);
         x = Check.told("farmer 1 9;odds 0 0 0 10;");
         due("0", x.mean(0, 3, 0), 0);
         due("by 1", x.mean(0, 3, 1), 1);
@@ -568,6 +611,7 @@ public final class PromiseTest {
         due("ONE -1", x.luck(-1, 0, 0), BAD);
         due("5 weeks", x.luck(0, 5, 0), BAD);
         due("what 2", x.luck(0, 0, 2), BAD);
+        due("what -1", x.luck(0, 0, -1), BAD);
 
         begin("32 forecast", "farmer 1 9;eeler 1 9;miller 1 9;farmer 5 9;");
         long[][] worth = {{9, 10}, {6, 5}, {7, 10}, {9, 2}};
@@ -577,6 +621,7 @@ public final class PromiseTest {
         }
         due("ONE 4", x.forecast(4, 0), BAD);
         due("what 2", x.forecast(0, 2), BAD);
+        due("what -1", x.forecast(0, -1), BAD);
         x = Check.told("farmer 1 9;odds 10 0 0 0;");
         due("0", x.forecast(0, 0), 0);
         due("by 1", x.forecast(0, 1), 1);
@@ -590,6 +635,12 @@ public final class PromiseTest {
         due("0 weeks", x.drift(1, 0, 1), BAD);
         due("61 weeks", x.drift(1, 61, 1), BAD);
         due("what 2", x.drift(1, 1, 2), BAD);
+        due("what -1", x.drift(1, 1, -1), BAD);
+        x = Check.told("farmer 1 9;odds 0 9 1 0;");
+        due("by odds", x.drift(1, 3, 1), 12);
+        x = Check.told("farmer 1 9;odds 0 8 1 1;");
+        due("by other odds", x.drift(1, 3, 1), 6);
+        x = Check.told(FARMER);
         due("nothing went", x.rule(3), 0);
         purses(9);
         x = Check.told("farmer 1 0;miller 1 0;cover 0 1 wet 5 0;");
@@ -690,6 +741,10 @@ public final class PromiseTest {
         due("of several the least", x.look(0), 14);
         due("how many", x.look(1), 1);
         due("nobody", new RainCover().look(0), NONE);
+        x = Check.told(FARMER);
+        x.alter(0, 2, 999);
+        due("a full purse", x.look(0), 4);
+        due("how many", x.look(1), 65);
     }
 
     /** The farmer's purse tells frost, wet, frost: the fourth week is open. */
@@ -741,6 +796,11 @@ public final class PromiseTest {
         due("seen stays", x.count(0), 1);
         x.week(0);
         due("the image stays", x.back(0), 2);
+        x.week(0);
+        x.keep(1);
+        x.week(0);
+        due("the other image", x.back(1), 3);
+        due("the first again", x.back(0), 2);
         sheets();
         reading();
 
@@ -777,6 +837,9 @@ public final class PromiseTest {
         due("count(3)", x.count(3), 0);
         due("a new row", x.sheet(0, 0, 40), 1);
         due("of cells 0", x.read(0, 0, 39, 1), 1);
+        x.lay(0, 0, 4);
+        x.sheet(0, 0, 1);
+        due("the first too", x.read(0, 0, 0, 1), 1);
 
         begin("43 lay", FARMER);
         due("4", x.lay(4, 0, 0), BAD);
