@@ -1188,21 +1188,22 @@ public final class RainCover {
 
         /** PEOPLE who are SAFE (bits); but once no more than few of them are, the rest is not looked at. */
         private int safeBits(int weeks, int few) {
-            int everyone = (1 << trial.people) - 1;
-            return everyone & ~endangered(0, weeks, few, 0);
-        }
-
-        private int endangered(int node, int weeks, int few, int known) {
-            if (weeks <= 0) {
-                return known | belowFloor(node);
-            }
-            int bits = known;
-            // Frost first: it most often is what endangers, and then the search ends early.
-            for (int w = WEATHERS - 1; w >= 0 && trial.people - Integer.bitCount(bits) > few; w--) {
-                step(node, w);
-                bits = endangered(childOf(node, w), weeks - 1, few, bits);
+            int bits = (1 << trial.people) - 1;
+            // From frost on down: frost most often is what endangers, and then the search ends early.
+            for (int run = runsOf(weeks) - 1; run >= 0 && Integer.bitCount(bits) > few; run--) {
+                walkDown(run, weeks);
+                bits &= ~belowFloor(FIRST[weeks] + run);
             }
             return bits;
+        }
+
+        /** Steps only to the nodes of a run that the run one more did not go through. */
+        private void walkDown(int run, int weeks) {
+            for (int left = weeks - 1; left >= 0; left--) {
+                if ((run + 1 & runsOf(left) - 1) == 0) {
+                    step(FIRST[weeks - 1 - left] + (run >> 2 * (left + 1)), run >> 2 * left & 3);
+                }
+            }
         }
 
         private int belowFloor(int node) {
