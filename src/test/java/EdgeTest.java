@@ -393,6 +393,15 @@ public final class EdgeTest extends Sentences {
         told("miller 1 4;miller 1 0;cover 0 1 frost 5 0;sky frost;");
         x.week(3);
         due("what is owed already counts", x.runs(4), 7);
+        // Each asked first of a new object, so that no answer can lean on an earlier one.
+        int[] first = {1, 3, 2, 7, 2};
+        for (int what = 0; what < 5; what++) {
+            told("miller 1 9;miller 1 4;cover 0 1 frost 8 0;sky sun wet frost;floor 8;");
+            due("asked first, " + what, x.runs(what), first[what]);
+            x.cut(0);
+            x.plan(1);
+            due("another plan, " + what, x.runs(what), new int[] {0, 2, NONE, 19, 0}[what]);
+        }
 
         promise(23, "Likewise: the PURSE of a ONE then.");
         due("nobody", x.ahead(0), BAD);
@@ -426,6 +435,14 @@ public final class EdgeTest extends Sentences {
             }
         }
         due("wet is the first that empties the purse", x.least(3, 1, 1), 2);
+        x.insure(1, 0, 1, 20, 0);
+        due("by grey alone", x.least(1, 1, 1), 1);
+        due("by grey alone", x.least(1, 2, 1), 5);
+        // Sun, then grey: 49, 32, 15 and then all of the 18.
+        due("three of grey empty the purse", x.least(1, 4, 1), 21);
+        // Paid 20, 20, 19 and 3.
+        due("the most of him who is paid", x.least(0, 4, 2), 50 + 4 + 62);
+        x.drop(0);
         x.alter(3, 2, 999);
         due("the greatest", x.least(3, 4, 2), 999);
         due("the least", x.least(3, 4, 0), 939);
@@ -490,6 +507,14 @@ public final class EdgeTest extends Sentences {
         told("farmer 1 11;farmer 1 99;cover 0 1 sun 0 0;cover 0 1 sun 0 0;cover 0 1 sun 0 0;cover 0 1 sun 0 0;");
         due("there is room for a fifth", x.help(3, 0), 103);
         due("it did not come", x.rule(1), 4);
+        told("farmer 1 11;miller 5 19;");
+        due("nobody is safe now", x.safe(3), 0);
+        due("one is by the cover", x.help(2, 0), 103);
+        due("how many", x.help(2, 1), 1);
+        told("farmer 1 11;miller 1 50;cover 1 0 sun 20 0;");
+        due("frost endangers one, sun the other", x.safe(3), 0);
+        due("one is by the cover", x.help(3, 0), 103);
+        due("how many", x.help(3, 1), 1);
         told("eeler 1 17;boatman 1 99;eeler 1 16;");
         due("frost alone endangers", x.help(20, 0), 123);
     }
@@ -531,6 +556,10 @@ public final class EdgeTest extends Sentences {
         told("farmer 1 99;miller 1 9;miller 1 9;miller 1 9;cover 1 0 sun 9 0;cover 2 3 sun 20 4;");
         due("that by which most are safe", x.spare(0), 1);
         due("how many", x.spare(1), 3);
+        told("miller 1 9;miller 1 4;cover 0 1 sun 9 0;");
+        due("nobody is safe now", x.safe(3), 0);
+        due("one is without it", x.spare(0), 0);
+        due("how many", x.spare(1), 1);
         told("farmer 1 99;miller 1 9;cover 0 1 sun 9 0;cover 0 1 frost 1 0;");
         due("as many are safe without: none", x.spare(0), NONE);
         due("what 2", x.spare(2), BAD);
@@ -777,6 +806,10 @@ public final class EdgeTest extends Sentences {
         x.see(1, 4, 44);
         due("two fit", x.fits(0), 2);
         looks("of several the least", 11, 1);
+        told("miller 1 50;miller 1 50;miller 1 50;farmer 1 50;");
+        looks("four people, nothing seen", 33, 24);
+        x.alter(0, 0, 0);
+        looks("the first as well as the last", 3, 24);
         due("what 2", x.look(2), BAD);
         due("what -1", x.look(-1), BAD);
     }

@@ -377,6 +377,12 @@ public final class TextTest extends Sentences {
         faulty("farmer 1 1;cover 1 0 sun 1 1;", 6, 29);
         faulty("cover 1 0 sun 1 1;farmer 1 1;sky;", 6, 33);
         taken("farmer 1 1;cover 1 0 sun 1 1;farmer 1 1;", 3);
+        for (int people = 0; people < 4; people++) {
+            String some = "farmer 1 1;".repeat(people);
+            faulty(some + "cover 3 0 sun 1 1;", 6, some.length() + 18);
+            faulty(some + "cover 0 3 sun 1 1;", 6, some.length() + 18);
+            faulty("cover 2 3 sun 1 1;" + some, 6, some.length() + 18);
+        }
         String three = FOUR.substring(0, FOUR.indexOf("eeler"));
         taken(three + "cover 2 0 sun 1 1;cover 0 2 sun 1 1;", 5);
         faulty(three + "cover 3 0 sun 1 1;", 6, three.length() + 18);
