@@ -530,6 +530,9 @@ public final class EdgeTest extends Sentences {
         due("all are safe", x.help(20, 1), NONE);
         told("farmer 1 0;farmer 1 0;");
         due("nobody can", x.help(20, 0), NONE);
+        told("farmer 1 99;farmer 1 99;farmer 1 99;farmer 1 99;");
+        Check.tell(x, "farmer 1 11;farmer 1 0;");
+        due("nor can those who were there before", x.help(3, 0), NONE);
         told("farmer 1 11;farmer 1 99;" + "cover 0 1 sun 0 0;".repeat(5));
         due("full", x.help(3, 0), FULL);
         due("full", x.help(3, 1), FULL);
