@@ -6,7 +6,9 @@ import java.nio.file.Files;
 import java.nio.file.Path;
 import java.util.ArrayList;
 import java.util.List;
+import java.util.Map;
 import java.util.Set;
+import java.util.TreeMap;
 import java.util.TreeSet;
 import java.util.regex.Matcher;
 import java.util.regex.Pattern;
@@ -25,6 +27,8 @@ public final class LanguageTest {
         t.words(source);
         t.library(source);
         t.methods(source);
+        t.constantRows(source);
+        t.chains(source);
         t.face(Files.readString(DOCUMENT));
         t.classes();
         t.check.close();
@@ -80,6 +84,63 @@ public final class LanguageTest {
                 check.due("nothing is made in " + head, lines[i].matches(".*\\bnew\\b.*") ? 1 : 0, 0);
             }
         }
+    }
+
+    /** Rows that are static are never changed, and never known by another name. */
+    private void constantRows(String source) {
+        Matcher m = Pattern.compile("\\bstatic final \\w+\\[\\] (\\w+) = \\{").matcher(source);
+        int many = 0;
+        while (m.find()) {
+            many++;
+            String name = m.group(1);
+            none(source, "\\b" + name + "\\s*\\[[^\\]]*\\]\\s*([-+*/%&|^]?=(?!=)|<<=|>>=|>>>=|\\+\\+|--)");
+            none(source, "(\\+\\+|--)\\s*" + name + "\\b");
+            none(source, "(?<!\\] )\\b" + name + "\\b(?!\\s*\\[)");
+        }
+        check.due("rows that are static", many, 2);
+    }
+
+    /** No recursion, and calls that go at most eight deep; methods of one name are taken as one. */
+    private void chains(String source) {
+        Map<String, Set<String>> calls = callsByMethod(source);
+        for (String name : calls.keySet()) {
+            check.due(name + " goes at most eight deep", depth(calls, name, 1) <= 8 ? 1 : 0, 1);
+        }
+        check.due("methods are found: help, searchMore, offerMore, safeBits, walkDown, step, live, hand", depth(calls, "help", 1), 8);
+    }
+
+    private static Map<String, Set<String>> callsByMethod(String source) {
+        Map<String, Set<String>> calls = new TreeMap<>();
+        Pattern head = Pattern.compile("\\s*(?:public|private)[^=;(]*\\b(\\w+)\\([^)]*\\)\\s*\\{");
+        Pattern call = Pattern.compile("\\b(\\w+)\\(");
+        Set<String> open = null;
+        String close = "";
+        for (String line : source.split("\n", -1)) {
+            Matcher begins = head.matcher(line);
+            if (begins.matches()) {
+                open = calls.computeIfAbsent(begins.group(1), name -> new TreeSet<>());
+                close = line.replaceAll("\\S.*", "") + "}";
+            } else if (open != null && line.equals(close)) {
+                open = null;
+            } else if (open != null) {
+                Matcher called = call.matcher(line);
+                while (called.find()) {
+                    open.add(called.group(1));
+                }
+            }
+        }
+        return calls;
+    }
+
+    /** How deep a method goes that stands at a level; of a recursion no more is said than that it goes too deep. */
+    private static int depth(Map<String, Set<String>> calls, String name, int level) {
+        int deepest = level;
+        for (String called : level > 8 ? Set.<String>of() : calls.get(name)) {
+            if (calls.containsKey(called)) {
+                deepest = Math.max(deepest, depth(calls, called, level + 1));
+            }
+        }
+        return deepest;
     }
 
     private void face(String document) {
